@@ -28,12 +28,12 @@ public final class DoorCalls {
     private final Row[] rows = new Row[ROWS];
     private final Row[] texts = new Row[TEXTS];
     private final Shape[] shapes = new Shape[SHAPES];
-    private final Service[] services = new Service[SERVICES];
     private final Scan scan = new Scan();
     private final Writing writing = new Writing();
     private final Reading reading = new Reading();
-    private final Rollout rollout;
-    private final Net net;
+    private final Rollout rollout = new Rollout();
+    private final Net net = new Net();
+    private final Service[] services = net.services;
     private final int[] found = new int[SIZE + 1];
     private int latestFinding = 0;
     private int latestAsked = 0;
@@ -50,11 +50,6 @@ public final class DoorCalls {
         for (int s = 0; s < SHAPES; s++) {
             shapes[s] = new Shape();
         }
-        for (int a = 0; a < SERVICES; a++) {
-            services[a] = new Service();
-        }
-        rollout = new Rollout(services, shapes);
-        net = new Net(services);
     }
 
     // ---- 1 rows, texts, shapes
@@ -309,7 +304,8 @@ public final class DoorCalls {
         int clashes = 0;
         for (int a = 0; a < SERVICES; a++) {
             for (int b = 0; b < SERVICES; b++) {
-                if (!rollout.pairFits(a, b, services[a].now, services[b].now)) {
+                int s = services[a].doors[b];
+                if (within(s, SHAPES) && !shapes[s].bothFit(services[a].now, services[b].now)) {
                     first = clashes == 0 ? a * SERVICES + b : first;
                     clashes++;
                 }
@@ -320,7 +316,7 @@ public final class DoorCalls {
     }
 
     public int order() {
-        rollout.survey();
+        rollout.survey(services, shapes);
         if (!rollout.fitsNow()) {
             return STATE;
         }
@@ -333,7 +329,7 @@ public final class DoorCalls {
         if (i < 0) {
             return BAD;
         }
-        rollout.survey();
+        rollout.survey(services, shapes);
         if (!rollout.fitsNow()) {
             return STATE;
         }
@@ -345,7 +341,7 @@ public final class DoorCalls {
         if (!within(a, SERVICES)) {
             return BAD;
         }
-        rollout.survey();
+        rollout.survey(services, shapes);
         if (!rollout.fitsWith(a)) {
             return STATE;
         }
@@ -869,6 +865,10 @@ public final class DoorCalls {
             }
             return names;
         }
+
+        boolean bothFit(int v, int w) {
+            return unlikeNames(v, w) == 0 && unlikeNames(w, v) == 0;
+        }
     }
 
     /** Goes through a text of the language of shapes; the items come to a draft. */
@@ -1115,9 +1115,6 @@ public final class DoorCalls {
         }
 
         private static int wrongInField(Row text, int place, int sort, int choices) {
-            if (place + 1 >= text.length) {
-                return text.length;
-            }
             if (text.unsignedAt(place + 1) >= choices) {
                 return place + 1;
             }
@@ -1202,31 +1199,14 @@ public final class DoorCalls {
     private static final class Rollout {
         private static final int SETS = 1 << SERVICES;
 
-        private final Service[] services;
-        private final Shape[] shapes;
         private final boolean[] allFit = new boolean[SETS];
         private final boolean[] reached = new boolean[SETS];
-        private final boolean[] leadsToAll = new boolean[SETS];
         private int changing = 0;
         int most = 0;
         int steps = 0;
         final int[] stepAt = new int[SERVICES];
 
-        Rollout(Service[] services, Shape[] shapes) {
-            this.services = services;
-            this.shapes = shapes;
-        }
-
-        boolean pairFits(int a, int b, int versionOfA, int versionOfB) {
-            int s = services[a].doors[b];
-            if (!within(s, SHAPES)) {
-                return true;
-            }
-            return shapes[s].unlikeNames(versionOfA, versionOfB) == 0
-                && shapes[s].unlikeNames(versionOfB, versionOfA) == 0;
-        }
-
-        void survey() {
+        void survey(Service[] services, Shape[] shapes) {
             changing = 0;
             for (int a = 0; a < SERVICES; a++) {
                 changing |= services[a].now != services[a].then ? 1 << a : 0;
@@ -1236,20 +1216,21 @@ public final class DoorCalls {
             }
             for (int a = 0; a < SERVICES; a++) {
                 for (int b = 0; b < SERVICES; b++) {
-                    if (services[a].doors[b] != NONE) {
-                        barSetsOf(a, b);
+                    int s = services[a].doors[b];
+                    if (within(s, SHAPES)) {
+                        barSets(shapes[s], services, a, b);
                     }
                 }
             }
         }
 
-        private void barSetsOf(int a, int b) {
+        private void barSets(Shape shape, Service[] services, int a, int b) {
             Service one = services[a];
             Service other = services[b];
-            barUnless(pairFits(a, b, one.now, other.now), a, b, 0);
-            barUnless(pairFits(a, b, one.then, other.now), a, b, 1 << a);
-            barUnless(pairFits(a, b, one.now, other.then), a, b, 1 << b);
-            barUnless(pairFits(a, b, one.then, other.then), a, b, 1 << a | 1 << b);
+            barUnless(shape.bothFit(one.now, other.now), a, b, 0);
+            barUnless(shape.bothFit(one.then, other.now), a, b, 1 << a);
+            barUnless(shape.bothFit(one.now, other.then), a, b, 1 << b);
+            barUnless(shape.bothFit(one.then, other.then), a, b, 1 << a | 1 << b);
         }
 
         private void barUnless(boolean fit, int a, int b, int putIn) {
@@ -1276,7 +1257,6 @@ public final class DoorCalls {
             most = mostReached();
             steps = NONE;
             if (reached[changing]) {
-                markLeading();
                 layOutSteps();
             }
         }
@@ -1302,21 +1282,15 @@ public final class DoorCalls {
             return best;
         }
 
-        private void markLeading() {
-            for (int set = SETS - 1; set >= 0; set--) {
-                boolean next = set == changing;
-                for (int a = 0; a < SERVICES; a++) {
-                    next = next || (set & 1 << a) == 0 && leadsToAll[set | 1 << a];
-                }
-                leadsToAll[set] = next && allFit[set];
-            }
-        }
-
+        /**
+         * The least number that fits can be taken each time: if there is an order, what it puts in first of all
+         * that is still left fits, too, for each pair stands as it did in that order, or as it does at its end.
+         */
         private void layOutSteps() {
             steps = 0;
             int set = 0;
             for (int turn = 0; turn < SERVICES && set != changing; turn++) {
-                int a = firstLeading(set);
+                int a = firstThatFits(set);
                 if (a == NONE) {
                     return;
                 }
@@ -1326,9 +1300,9 @@ public final class DoorCalls {
             }
         }
 
-        private int firstLeading(int set) {
+        private int firstThatFits(int set) {
             for (int a = 0; a < SERVICES; a++) {
-                if ((set & 1 << a) == 0 && leadsToAll[set | 1 << a]) {
+                if ((set & 1 << a) == 0 && allFit[set | 1 << a]) {
                     return a;
                 }
             }
@@ -1471,7 +1445,7 @@ public final class DoorCalls {
 
     /** The calls and frames among the services, tick by tick. */
     private static final class Net {
-        private final Service[] services;
+        final Service[] services = new Service[SERVICES];
         final Call[] calls = new Call[CALLS];
         final Frames frames = new Frames();
         final Lines lines = new Lines();
@@ -1481,8 +1455,10 @@ public final class DoorCalls {
         int pings = 0;
         int streamFrames = 0;
 
-        Net(Service[] services) {
-            this.services = services;
+        Net() {
+            for (int a = 0; a < SERVICES; a++) {
+                services[a] = new Service();
+            }
             for (int c = 0; c < CALLS; c++) {
                 calls[c] = new Call();
             }

@@ -222,13 +222,23 @@ public final class BytesTest {
         Make.bytes(x, 0, 0, 3, 2, 7);
         x.read(0, 0, 0, 0);
         Make.bytes(x, 0, 5, 3, 2);
-        due.is("a reading that is wrong", x.read(0, 0, 0, 0), 3);
+        due.is("a reading that is wrong behind an unread field", x.read(0, 0, 0, 0), 3);
         due.is("names(0) stays", x.names(0), 1);
         due.is("names(1) stays", x.names(1), 4);
         due.is("names(2) stays", x.names(2), 2);
         x.text(1, 0);
         due.is("handOn stays", x.handOn(1), 2);
         same("unread bytes stay", Make.textOf(x, 1), "2 7");
+        Make.bytes(x, 0, 0, 3, 20, 8, 9);
+        due.is("a reading that is good", x.read(0, 9, 0, 0), NONE);
+        due.is("names(1) anew", x.names(1), 16);
+        x.text(1, 0);
+        due.is("handOn anew", x.handOn(1), 3);
+        same("unread bytes anew", Make.textOf(x, 1), "20 8 9");
+        Make.bytes(x, 0, 0, 3, 5, 8);
+        due.is("a name that no version has", x.read(0, 9, 0, 0), NONE);
+        due.is("names(0)", x.names(0), 1);
+        due.is("names(1)", x.names(1), 32);
     }
 
     private static void handsOn() {

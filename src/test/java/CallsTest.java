@@ -147,6 +147,13 @@ public final class CallsTest {
         x.ping(0, 1);
         x.breaks(0, 1, 0, 5);
         due.is("a break that is over", x.tick(), 1);
+        x.breaks(0, 3, 7, 7);
+        for (int a = 0; a < 6; a++) {
+            for (int b = 0; b < 6; b++) {
+                x.ping(a, b);
+            }
+        }
+        due.is("all lines but one", x.tick(), 28);
     }
 
     private static void queueAndMark() {
@@ -229,6 +236,16 @@ public final class CallsTest {
         due.is("no cancel is sent", x.count(3), 4);
         due.is("tick()", x.tick(), 1);
         told(x, 1, ANSWERED, 3, 0, 5, 1);
+        due.is("a refusal is no piece", x.stream(0, 2), 0);
+        DoorCalls y = new DoorCalls();
+        y.service(0, 1, 0, 20);
+        y.call(5, 0, TWICE, 9, 50, 0);
+        y.call(4, 0, TWICE, 2, 2, 0);
+        y.run(2);
+        told(y, 1, LATE, 2, 0, 0, 0);
+        due.is("too late is told ahead of too many", y.mark(2, 3), 6);
+        y.run(10);
+        told(y, 0, ANSWERED, 11, 0, 0, 1);
     }
 
     private static void tooLateInQueue() {

@@ -211,6 +211,7 @@ public final class FramesTest {
 
     private static void means() {
         DoorCalls x = new DoorCalls();
+        x.run(9);
         due.finds(x, NOUGHT, "mean()", () -> x.mean());
         x.call(0, 1, 0, 1, 50, 0);
         x.call(2, 3, 0, 2, 50, 0);
@@ -233,30 +234,38 @@ public final class FramesTest {
         due.is("lower()", x.lower(), 1);
     }
 
-    /** Many frames: calls whose asks are all lost, tried five times more, with all credits and pings. */
+    /**
+     * Nearly as many frames as there can be: 30 calls over three lines, each asked six times and answered as often,
+     * the answers lost but for the last of ten calls, a cancel of the others, and all pings and credits.
+     */
     private static void manyFrames() {
         DoorCalls x = new DoorCalls();
+        int[][] lost = {{3, 4}, {8, 8}, {15, 15}, {24, 24}, {37, 37}, {58, 58}};
         for (int a = 0; a < 6; a++) {
             x.service(a, 3, 9, 99);
+            for (int[] b : lost) {
+                if (a % 2 == 0 && !(a == 4 && b[0] == 58)) {
+                    x.breaks(a, a + 1, b[0], b[1]);
+                }
+            }
         }
-        x.call(0, 1, 0, 1, 99, 5);
-        x.run(3);
-        for (int b = 1; b <= 5; b++) {
-            x.breaks(0, b, 100, 9999);
+        for (int c = 0; c < 30; c++) {
+            int a = c % 6;
+            due.is("call", x.call(a, a ^ 1, 0, 1, 60, 5), c);
         }
-        x.run(97);
-        for (int k = 0; k < 29; k++) {
-            x.call(1 + k % 5, 0, 0, 1, 99, 5);
-        }
+        x.run(70);
+        due.is("all ended", x.count(2), 0);
+        due.is("frames of calls", x.count(3), 30 * 12 + 20);
+        due.is("ten are answered", x.mean(), 10);
         for (int k = 0; k < 200; k++) {
-            due.is("credit(0, 9)", x.credit(0, 9) >= 0 ? 1 : 0, 1);
+            due.is("credit(4, 9)", x.credit(4, 9), 380 + k);
         }
         for (int k = 0; k < 100; k++) {
-            due.is("ping(0, 1)", x.ping(0, 1) >= 0 ? 1 : 0, 1);
+            due.is("ping(0, 1)", x.ping(0, 1), 580 + k);
         }
-        x.run(100);
-        x.run(100);
-        due.is("all ended", x.count(2), 0);
-        due.is("frames", x.count(3), 2 + 29 * 6 + 300);
+        due.is("all come", x.tick(), 300);
+        due.is("stream(4, 0)", x.stream(4, 0), 1800);
+        due.is("count(3)", x.count(3), 680);
+        frame(x, 679, 0, 0, 1, 70, 1);
     }
 }

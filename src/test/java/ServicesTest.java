@@ -94,6 +94,10 @@ public final class ServicesTest {
         due.is("clash() of three, asked()", x.asked(), 11);
         x.version(4, 2, 0);
         due.is("clash() of now alone", x.clash(), 1);
+        x.door(0, 2, 0);
+        due.is("clash() of 0", x.clash(), 2);
+        due.is("clash() of 0, asked()", x.asked(), 2);
+        x.door(0, 2, NONE);
         x.door(1, 5, NONE);
         due.is("clash() without the door", x.clash(), 0);
         due.is("clash() without the door, asked()", x.asked(), NONE);
@@ -109,6 +113,10 @@ public final class ServicesTest {
         x.door(5, 3, 0);
         order(x, 42, 1, 3, 5);
         due.refuses(x, BAD, "orderAt(-1)", () -> x.orderAt(-1));
+        x.version(1, 0, 0);
+        due.is("orderAt(0) without order()", x.orderAt(0), 3);
+        due.is("orderAt(1) without order()", x.orderAt(1), 5);
+        due.is("orderAt(2) without order()", x.orderAt(2), NONE);
     }
 
     private static void forcedOrders() {

@@ -139,6 +139,11 @@ public final class ShapesTest {
                 due.asks(x, "item(1, " + i + ", " + what + ")", x.item(1, i, what), facts[i][what]);
             }
         }
+        Make.shape(x, 2, "aB+5-6=3");
+        Make.shape(x, 2, "aB");
+        due.asks(x, "SINCE anew", x.item(2, 0, 3), 0);
+        due.asks(x, "TILL anew", x.item(2, 0, 4), 9);
+        due.asks(x, "DEFAULT anew", x.item(2, 0, 5), NONE);
         due.refuses(x, DoorCalls.BAD, "item(4, 0, 0)", () -> x.item(4, 0, 0));
         due.refuses(x, DoorCalls.BAD, "item(-1, 0, 0)", () -> x.item(-1, 0, 0));
         due.refuses(x, DoorCalls.BAD, "item(0, 0, 6)", () -> x.item(0, 0, 6));

@@ -253,6 +253,18 @@ public final class ToldTest {
         due.is("the text of the empty shape", x.size(5), 0);
         long want = digestOf(x, new int[] {-1, 3, -1, 0}, settings, rows, texts);
         due.is("digest() of much", x.digest(), want);
+        x.service(0, 2, 9, 5);
+        settings[0][2] = 2;
+        settings[0][3] = 9;
+        settings[0][4] = 5;
+        for (int c = 0; c < 5; c++) {
+            x.call(1 + c, 0, 0, 9, 50, 0);
+        }
+        x.tick();
+        due.is("queue(0)", x.queue(0), 3);
+        due.is("queue(0), asked()", x.asked(), 2);
+        want = digestOf(x, new int[] {-1, 3, -1, 0}, settings, rows, texts);
+        due.is("digest() of a queue", x.digest(), want);
         x.putIn(4);
         settings[4][0] = 8;
         want = digestOf(x, new int[] {-1, 3, -1, 0}, settings, rows, texts);
