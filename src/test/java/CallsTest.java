@@ -23,6 +23,7 @@ public final class CallsTest {
         keepEdges();
         keepAsItWas();
         askAgainWhileDoing();
+        answeredAndAskedAgain();
         cancelling();
         ticks();
         handsTogether();
@@ -415,6 +416,28 @@ public final class CallsTest {
         place(y, 0, 2);
         y.run(20);
         told(y, 0, ANSWERED, 25, 1, 0, 1);
+    }
+
+    /** An ask that was sent as the work was done comes behind the answer, its name no longer kept. */
+    private static void answeredAndAskedAgain() {
+        DoorCalls x = new DoorCalls();
+        x.service(1, 1, 9, 0);
+        x.call(2, 1, TWICE, 4, 50, 0);
+        x.call(0, 1, TWICE, 2, 50, 1);
+        x.call(3, 1, TWICE, 9, 50, 0);
+        x.run(7);
+        told(x, 1, OPEN, NONE, 1, 0, 1);
+        due.is("an answer and an ask", x.tick(), 2);
+        told(x, 1, ANSWERED, 8, 1, 0, 1);
+        place(x, 1, 1);
+        x.credit(1, 4);
+        x.tick();
+        place(x, 1, 1);
+        queue(x, 1, 1, 1);
+        due.is("stream(1, 0)", x.stream(1, 0), 4);
+        x.run(10);
+        told(x, 1, ANSWERED, 8, 1, 0, 2);
+        shares(x, 1, 2, 4, 2, 0);
     }
 
     private static void cancelling() {
