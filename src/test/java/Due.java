@@ -1,6 +1,7 @@
 /** Counts the answers of a test that are not the ones that are due, and ends the test with what it counted. */
 final class Due {
     private final String test;
+    private String about = "";
     private int looked = 0;
     private int wrong = 0;
 
@@ -8,11 +9,32 @@ final class Due {
         this.test = test;
     }
 
+    /** From now on a wrong answer is told with these words ahead. */
+    void about(String words) {
+        about = words;
+    }
+
     void is(String call, long got, long want) {
         looked++;
         if (got != want) {
             wrong++;
-            System.out.println(test + ": " + call + " answered " + got + ", due is " + want);
+            System.out.println(test + ": " + about + call + " answered " + got + ", due is " + want);
+        }
+    }
+
+    void same(String what, String got, String want) {
+        is(what + " is '" + got + "', due '" + want + "'; same", got.equals(want) ? 1 : 0, 1);
+    }
+
+    /** A call, told by its name, and its answer. */
+    void gives(DoorCalls x, long want, String name, int... a) {
+        is(label(name, a), Answers.of(x, name, a), want);
+    }
+
+    /** Calls one behind the other that are all answered alike. */
+    void giveAll(DoorCalls x, long want, String name, int[][] all) {
+        for (int[] a : all) {
+            gives(x, want, name, a);
         }
     }
 
@@ -20,6 +42,16 @@ final class Due {
     void asks(DoorCalls x, String call, long got, long want) {
         is(call, got, 1);
         is(call + ", asked()", x.asked(), want);
+    }
+
+    void asks(DoorCalls x, long want, String name, int... a) {
+        asks(x, label(name, a), Answers.of(x, name, a), want);
+    }
+
+    /** An answer, and what asked() tells besides. */
+    void tells(DoorCalls x, long answer, long asked, String name, int... a) {
+        gives(x, answer, name, a);
+        is(label(name, a) + ", asked()", x.asked(), asked);
     }
 
     /** A refusal by a finding, counted once more, that changes nothing else. */
@@ -32,6 +64,16 @@ final class Due {
             is(call + ", findings(" + f + ")", x.findings(f), before[f] + (f == finding ? 1 : 0));
         }
         state.isSame(this, call, x);
+    }
+
+    void finds(DoorCalls x, int finding, String name, int... a) {
+        finds(x, finding, label(name, a), () -> Answers.of(x, name, a));
+    }
+
+    void findAll(DoorCalls x, int finding, String name, int[][] all) {
+        for (int[] a : all) {
+            finds(x, finding, name, a);
+        }
     }
 
     /** A refusal by BAD, FULL or STATE, that changes nothing, not even the findings. */
@@ -47,11 +89,29 @@ final class Due {
         state.isSame(this, call, x);
     }
 
+    void refuses(DoorCalls x, int answer, String name, int... a) {
+        refuses(x, answer, label(name, a), () -> Answers.of(x, name, a));
+    }
+
+    void refuseAll(DoorCalls x, int answer, String name, int[][] all) {
+        for (int[] a : all) {
+            refuses(x, answer, name, a);
+        }
+    }
+
     void end() {
         System.out.println(test + ": " + looked + " answers, " + wrong + " not as due");
         if (wrong != 0) {
             System.exit(1);
         }
+    }
+
+    static String label(String name, int... a) {
+        StringBuilder label = new StringBuilder(name).append('(');
+        for (int k = 0; k < a.length; k++) {
+            label.append(k == 0 ? "" : ", ").append(a[k]);
+        }
+        return label.append(')').toString();
     }
 
     private static int[] countsOf(DoorCalls x) {

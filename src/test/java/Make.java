@@ -30,6 +30,25 @@ final class Make {
         return x.shape(s, 5);
     }
 
+    static DoorCalls withShape(String words) {
+        DoorCalls x = new DoorCalls();
+        shape(x, 0, words);
+        return x;
+    }
+
+    /** Ticks up to one, by run() and no tick too many. */
+    static void runTo(DoorCalls x, int tick) {
+        for (int k = 0; k < 100 && x.count(0) < tick; k++) {
+            x.run(Math.min(100, tick - x.count(0)));
+        }
+    }
+
+    /** Call 0, of service 0 to 1, ANSWERED at tick 3. */
+    static void answered(DoorCalls x) {
+        x.call(0, 1, 0, 1, 50, 0);
+        x.run(3);
+    }
+
     /** The numbers of a row; BEYOND, counted by the object, tells its end. */
     static String rowOf(DoorCalls x, int r) {
         StringBuilder all = new StringBuilder();

@@ -3,7 +3,10 @@ import java.util.Arrays;
 import java.util.List;
 import java.util.Random;
 
-/** Runs of calls drawn by fixed seeds: each answer of DoorCalls is that of the plain model. */
+/**
+ * Runs of calls drawn by fixed seeds: each answer of DoorCalls is that of the plain model, and that of a second object
+ * which is spared the calls that are refused, for these change nothing.
+ */
 public final class RandomRunsTest {
     private static final int RUNS = 2500, CALLS = 512;
     private static final String[] ALL = {
@@ -20,6 +23,7 @@ public final class RandomRunsTest {
 
     private final Random random;
     private final DoorCalls x = new DoorCalls();
+    private final DoorCalls spared = new DoorCalls();
     private final PlainModel plain = new PlainModel();
     private final List<String> log = new ArrayList<>();
     private int made = 0;
@@ -72,6 +76,20 @@ public final class RandomRunsTest {
         if (got != want) {
             wrong++;
         }
+        boolean ofFindings = name.equals("finding") || name.equals("findings");
+        if (!ofFindings && !isRefused(name, got)) {
+            long spares = Answers.of(spared, name, a);
+            if (spares != got) {
+                log.add("without the calls that were refused it answers " + spares);
+                wrong++;
+            }
+        }
+    }
+
+    /** Answers that are told, not given, may be any number. */
+    private static boolean isRefused(String name, long answer) {
+        boolean told = List.of("asked", "upper", "lower", "digest").contains(name);
+        return !told && answer <= DoorCalls.BAD && answer >= DoorCalls.STATE;
     }
 
     private void one(String[] from) {

@@ -143,99 +143,33 @@ public final class ToldTest {
         due.refuses(x, BAD, "findings(-1)", () -> x.findings(-1));
     }
 
-    private static long h;
-
-    private static void mix(long v) {
-        h = 31 * h + v;
-    }
-
-    private static void mixAsked(DoorCalls x, int answer) {
-        due.is("an answer by asked()", answer, 1);
-        mix(x.asked());
-    }
-
-    /** The digest by the document's words, of what the calls tell; settings: versions, hands, mark, keep, doors. */
-    private static long digestOf(DoorCalls x, int[] items, int[][] settings, int[][] rows, int[][] texts) {
-        h = 17;
-        for (int what = 0; what <= 8; what++) {
-            mix(x.count(what));
-        }
-        for (int s = 0; s < 4; s++) {
-            mix(items[s]);
-            for (int i = 0; i < items[s]; i++) {
-                for (int what = 0; what <= 5; what++) {
-                    mixAsked(x, x.item(s, i, what));
-                }
-            }
-        }
-        for (int a = 0; a < 6; a++) {
-            for (int v : settings[a]) {
-                mix(v);
-            }
-            mix(x.queue(a));
-            mix(x.asked());
-            mix(x.kept(a));
-        }
-        for (int c = 0; c < x.count(1); c++) {
-            for (int what = 0; what <= 6; what++) {
-                mixAsked(x, x.told(c, what));
-            }
-            for (int what = 0; what <= 3; what++) {
-                mix(x.where(c, what));
-            }
-            for (int what = 0; what <= 2; what++) {
-                mix(x.stream(c, what));
-            }
-        }
-        for (int f = 0; f < x.count(3); f++) {
-            for (int what = 0; what <= 4; what++) {
-                mixAsked(x, x.frame(f, what));
-            }
-        }
-        mixRows(rows);
-        mixRows(texts);
-        return h;
-    }
-
-    private static void mixRows(int[][] rows) {
-        for (int[] row : rows) {
-            mix(row == null ? -1 : row.length);
-            for (int i = 0; row != null && i < row.length; i++) {
-                mix(row[i]);
-            }
-        }
-    }
-
-    private static int[][] settingsAtFirst() {
-        int[][] settings = new int[6][];
-        for (int a = 0; a < 6; a++) {
-            settings[a] = new int[] {0, 0, 1, 3, 20, NONE, NONE, NONE, NONE, NONE, NONE};
-        }
-        return settings;
-    }
-
     private static void digestOfNew() {
         DoorCalls x = new DoorCalls();
-        long want = digestOf(x, new int[] {-1, -1, -1, -1}, settingsAtFirst(), new int[6][], new int[6][]);
-        due.is("digest() of a new object", x.digest(), want);
+        due.is("digest() of a new object", x.digest(), new DigestByWords().of(x));
     }
 
     private static void digestOfMuch() {
         DoorCalls x = new DoorCalls();
-        int[][] settings = settingsAtFirst();
+        DigestByWords words = new DigestByWords();
         Make.shape(x, 1, "aB=7-5 bC3+2 cR");
         Make.shape(x, 3, "");
+        words.items[1] = 3;
+        words.items[3] = 0;
         x.version(4, 3, 8);
-        settings[4][0] = 3;
-        settings[4][1] = 8;
+        words.settings[4][0] = 3;
+        words.settings[4][1] = 8;
         x.service(2, 2, 5, 44);
-        settings[2] = new int[] {0, 0, 2, 5, 44, NONE, NONE, NONE, NONE, NONE, 1};
+        words.settings[2] = new int[] {0, 0, 2, 5, 44, NONE, NONE, NONE, NONE, NONE, 1};
         x.door(2, 5, 1);
         x.door(0, 3, 3);
-        settings[0][8] = 3;
+        words.settings[0][8] = 3;
         Make.row(x, 1, -5, 6, Integer.MIN_VALUE);
         x.row(4, 0);
+        words.rows[1] = new int[] {-5, 6, Integer.MIN_VALUE};
+        words.rows[4] = new int[0];
         Make.bytes(x, 0, 200, 5);
+        words.texts[0] = new int[] {-56, 5};
+        words.texts[5] = new int[0];
         x.breaks(3, 1, 5, 9);
         for (int c = 0; c < 9; c++) {
             x.call(c % 5, 5, c % 3, 1 + c % 4, 20 + c, c % 4);
@@ -248,27 +182,22 @@ public final class ToldTest {
         x.piece(0);
         x.ping(3, 4);
         x.at(3, 0);
-        int[][] rows = {null, {-5, 6, Integer.MIN_VALUE}, null, null, {}, null};
-        int[][] texts = {{-56, 5}, null, null, null, null, {}};
         due.is("the text of the empty shape", x.size(5), 0);
-        long want = digestOf(x, new int[] {-1, 3, -1, 0}, settings, rows, texts);
-        due.is("digest() of much", x.digest(), want);
+        due.is("digest() of much", x.digest(), words.of(x));
         x.service(0, 2, 9, 5);
-        settings[0][2] = 2;
-        settings[0][3] = 9;
-        settings[0][4] = 5;
+        words.settings[0][2] = 2;
+        words.settings[0][3] = 9;
+        words.settings[0][4] = 5;
         for (int c = 0; c < 5; c++) {
             x.call(1 + c, 0, 0, 9, 50, 0);
         }
         x.tick();
         due.is("queue(0)", x.queue(0), 3);
         due.is("queue(0), asked()", x.asked(), 2);
-        want = digestOf(x, new int[] {-1, 3, -1, 0}, settings, rows, texts);
-        due.is("digest() of a queue", x.digest(), want);
+        due.is("digest() of a queue", x.digest(), words.of(x));
         x.putIn(4);
-        settings[4][0] = 8;
-        want = digestOf(x, new int[] {-1, 3, -1, 0}, settings, rows, texts);
-        due.is("digest() behind putIn(4)", x.digest(), want);
+        words.settings[4][0] = 8;
+        due.is("digest() behind putIn(4)", x.digest(), words.of(x));
     }
 
     private static void digestAsksNothing() {
