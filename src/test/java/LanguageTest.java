@@ -5,7 +5,6 @@ import java.lang.reflect.Method;
 import java.lang.reflect.Modifier;
 import java.nio.file.Files;
 import java.nio.file.Path;
-import java.util.ArrayList;
 import java.util.Arrays;
 import java.util.List;
 import java.util.Set;
@@ -17,16 +16,53 @@ import java.util.stream.Collectors;
 /** The document's face, and those rules of ../shared/LANGUAGE.md that can be seen from the class and its source. */
 public final class LanguageTest {
     private static final Due due = new Due("LanguageTest");
-    private static final int MOST_CLASSES = 12, MOST_FIELDS = 20, MOST_PARAMETERS = 7, MOST_LINES = 60;
-    private static final String[] FORBIDDEN = {
-        "\\bthrow\\b", "\\btry\\b", "\\bcatch\\b", "\\bsynchronized\\b", "\\bassert\\b", "->", "::", "\\bimport\\b",
-        "\\bpackage\\b", "\\bextends\\b", "\\bObject\\b", "\\bMath\\.\\w+Exact\\b", "\\bthis\\s*\\)", "\"\\s*\\+", "\\+\\s*\"",
-        "System\\.(?!arraycopy\\b)", "while\\s*\\(true\\)", "for\\s*\\(;;\\)", "\\bvar\\b", "\\bprotected\\b"};
+    /** A line that breaks a rule of ../shared/LANGUAGE.md, each with the rule's number ahead. */
+    private static final String[] BREAKERS = {
+        "0 int a() { return b; }",
+        "2 int[] a; class Inner { }",
+        "2 void a() { class Local { } }",
+        "2 interface F { int f(); } static F f = () -> 1;",
+        "2 interface F { int f(); } static int g() { return 1; } static final F f = X::g;",
+        "2 Object a = new Object() { };",
+        "3 Object a;",
+        "3 int[][][] a;",
+        "3 X[][] a;",
+        "3 java.util.HashMap<Integer, Integer> a;",
+        "4 int a() { return Math.addExact(1, 2); }",
+        "4 long a() { return System.nanoTime(); }",
+        "4 void a(int[] b) { java.util.Arrays.sort(b); }",
+        "4 int a(String s) { return s.hashCode(); }",
+        "4 String a = \"\u00e9\";",
+        "5 static int a = 1;",
+        "5 static { int a = 1; }",
+        "5 static final int[] A = new X().b; int[] b;",
+        "6 void a() { throw new IllegalStateException(); }",
+        "6 void a() { try { a(); } finally { } }",
+        "6 void a() { synchronized (this) { } }",
+        "6 void a() { assert true; }",
+        "6 boolean a(String b, String c) { return b == c; }",
+        "6 X a(X b) { return (X) b; }",
+        "6 public String toString() { return null; }",
+        "7 int a(int b) { return 1 / b; }",
+        "7 int a(int b) { return 1 % b; }",
+        "7 int a(int b) { int c = 1; c /= b; return c; }",
+        "9 void a() { while (true) { } }",
+        "9 void a() { do { } while (true); }",
+        "9 void a() { for (;;) { } }",
+        "9 void a() { for (int i = 0; true; i++) { } }",
+        "10 String a(String b) { return b + 1; }",
+        "11 int a() { return a(); }",
+        "11 int a() { return b(); } int b() { return a(); }",
+        "11 void a(int b, int c, int d, int e, int f, int g, int h, int i) { }",
+        "12 int[] a() { return new int[1]; }",
+        "12 X a() { return new X(); }"};
 
     public static void main(String[] args) throws IOException {
         face();
         members();
+        headings();
         source();
+        looking();
         due.end();
     }
 
@@ -64,60 +100,85 @@ public final class LanguageTest {
         due.is("NONE", DoorCalls.NONE, -9);
     }
 
+    /** The calls stand in the source under the headings, and in the order, of the document's interface. */
+    private static void headings() throws IOException {
+        String doc = Files.readString(Path.of("../shared/DOC.md"));
+        String source = Files.readString(Path.of("src/main/java/DoorCalls.java")).replace("public long ", "public int ");
+        Matcher told = Pattern.compile("Ahead of the calls (.*) the interface says: (.*)\\.\n").matcher(doc);
+        int place = 0;
+        int calls = 0;
+        while (told.find()) {
+            place = behind(source, "// " + told.group(2) + "\n", place);
+            for (String call : told.group(1).replace("`", "").split(", ")) {
+                place = behind(source, "    public int " + call + "(", place);
+                calls++;
+            }
+        }
+        due.is("calls under headings", calls, 48);
+    }
+
+    private static int behind(String source, String words, int place) {
+        int found = source.indexOf(words, Math.max(place, 0));
+        yes("in its order: " + words.strip(), found >= 0);
+        return found + words.length();
+    }
+
     private static void members() {
         Set<String> constants = Set.of("BAD", "FULL", "FINDING", "STATE", "NONE");
         for (Field field : DoorCalls.class.getDeclaredFields()) {
             yes(field + " is private or of the face",
                 Modifier.isPrivate(field.getModifiers()) != constants.contains(field.getName()));
         }
-        List<Class<?>> classes = new ArrayList<>(List.of(DoorCalls.class.getDeclaredClasses()));
-        for (Class<?> inside : classes) {
+        for (Class<?> inside : DoorCalls.class.getDeclaredClasses()) {
             int modifiers = inside.getModifiers();
-            yes(inside + " is static", Modifier.isStatic(modifiers));
             yes(inside + " is not open", !Modifier.isPublic(modifiers) && !Modifier.isProtected(modifiers));
-            due.is("classes inside " + inside, inside.getDeclaredClasses().length, 0);
+            namesOfTheirOwn(inside);
         }
-        classes.add(DoorCalls.class);
-        yes("at most " + MOST_CLASSES + " classes", classes.size() <= MOST_CLASSES);
+        namesOfTheirOwn(DoorCalls.class);
+    }
+
+    private static void namesOfTheirOwn(Class<?> one) {
         Set<String> publicNames = Arrays.stream(DoorCalls.class.getDeclaredMethods())
             .filter(method -> Modifier.isPublic(method.getModifiers())).map(Method::getName).collect(Collectors.toSet());
-        for (Class<?> each : classes) {
-            List<Field> own = Arrays.stream(each.getDeclaredFields())
-                .filter(field -> !Modifier.isStatic(field.getModifiers())).toList();
-            yes("fields of " + each, own.size() <= MOST_FIELDS);
-            for (Field field : each.getDeclaredFields()) {
-                yes(field + " is final if static",
-                    !Modifier.isStatic(field.getModifiers()) || Modifier.isFinal(field.getModifiers()));
-            }
-            for (Method method : each.getDeclaredMethods()) {
-                yes("parameters of " + method, method.getParameterCount() <= MOST_PARAMETERS);
-                yes(method + " has a name of its own",
-                    Modifier.isPublic(method.getModifiers()) || !publicNames.contains(method.getName()));
-            }
+        for (Method method : one.getDeclaredMethods()) {
+            yes(method + " has a name of its own",
+                Modifier.isPublic(method.getModifiers()) || !publicNames.contains(method.getName()));
         }
     }
 
     private static void source() throws IOException {
-        int methods = 0;
-        String source = Files.readString(Path.of("src/main/java/DoorCalls.java"));
-        yes("signs of the source are 1 to 127", source.chars().allMatch(sign -> sign > 0 && sign < 128));
-        String code = source.replaceAll("(?s)/\\*.*?\\*/", "").replaceAll("//[^\n]*", "");
-        for (String forbidden : FORBIDDEN) {
-            Matcher found = Pattern.compile(forbidden).matcher(code);
-            yes("no " + forbidden + " in the source", !found.find());
+        List<String> broken = SourceRules.broken("DoorCalls", Files.readString(Path.of("src/main/java/DoorCalls.java")));
+        for (String rule : broken) {
+            yes("rule " + rule, false);
         }
-        String[] lines = source.split("\n");
-        for (int k = 0; k < lines.length; k++) {
-            Matcher head = Pattern.compile("( {4}| {8})\\w[^=]*\\(.*\\) \\{").matcher(lines[k]);
-            if (head.matches()) {
-                int end = k;
-                while (!lines[end].equals(head.group(1) + "}")) {
-                    end++;
-                }
-                methods++;
-                yes("short: " + lines[k], end - k < MOST_LINES);
-            }
+        due.is("rules that are broken", broken.size(), 0);
+    }
+
+    /** The looking itself: a source is seen to break the rule that it breaks, and one that keeps to them is not. */
+    private static void looking() throws IOException {
+        for (String breaker : BREAKERS) {
+            String rule = breaker.substring(0, breaker.indexOf(' '));
+            List<String> broken = SourceRules.broken("X", inX(breaker.substring(rule.length())));
+            yes("seen: " + breaker + ", as " + broken, broken.stream().anyMatch(one -> one.startsWith(rule + ":")));
         }
-        yes("methods were seen", methods > 100);
+        yes("many lines", !SourceRules.broken("X", inX("void a() {" + "\n".repeat(60) + "}")).isEmpty());
+        yes("many fields", !SourceRules.broken("X", inX(many("int f#;", 21))).isEmpty());
+        yes("many classes", !SourceRules.broken("X", inX(many("static class C# { }", 12))).isEmpty());
+        yes("deep calls", !SourceRules.broken("X", inX("void a0() { }" + many("void a+() { a#(); }", 8))).isEmpty());
+        due.is("calls just as deep", SourceRules.broken("X", inX("void a0() { }" + many("void a+() { a#(); }", 7))).size(), 0);
+        String plain = "int[] a = new int[2]; int b(int c) { for (int i = 0; i < c; i++) { } return c != 0 ? 1 / c : Math.abs(c); }";
+        due.is("a plain source", SourceRules.broken("X", inX(plain)).size(), 0);
+    }
+
+    private static String inX(String lines) {
+        return "final class X { " + lines + " }";
+    }
+
+    private static String many(String line, int n) {
+        StringBuilder all = new StringBuilder();
+        for (int k = 0; k < n; k++) {
+            all.append(line.replace("#", Integer.toString(k)).replace("a+", "a" + (k + 1)));
+        }
+        return all.toString();
     }
 }
