@@ -1,28 +1,19 @@
-import com.sun.source.tree.AssertTree;
 import com.sun.source.tree.BinaryTree;
 import com.sun.source.tree.BlockTree;
-import com.sun.source.tree.CatchTree;
 import com.sun.source.tree.ClassTree;
 import com.sun.source.tree.CompilationUnitTree;
 import com.sun.source.tree.CompoundAssignmentTree;
-import com.sun.source.tree.DoWhileLoopTree;
 import com.sun.source.tree.ExpressionTree;
 import com.sun.source.tree.ForLoopTree;
 import com.sun.source.tree.ImportTree;
-import com.sun.source.tree.LambdaExpressionTree;
 import com.sun.source.tree.LiteralTree;
-import com.sun.source.tree.MemberReferenceTree;
 import com.sun.source.tree.MethodInvocationTree;
 import com.sun.source.tree.MethodTree;
 import com.sun.source.tree.NewArrayTree;
 import com.sun.source.tree.NewClassTree;
-import com.sun.source.tree.SynchronizedTree;
-import com.sun.source.tree.ThrowTree;
 import com.sun.source.tree.Tree;
-import com.sun.source.tree.TryTree;
 import com.sun.source.tree.TypeCastTree;
 import com.sun.source.tree.VariableTree;
-import com.sun.source.tree.WhileLoopTree;
 import com.sun.source.util.JavacTask;
 import com.sun.source.util.TreePath;
 import com.sun.source.util.TreePathScanner;
@@ -59,6 +50,11 @@ final class SourceRules extends TreePathScanner<Void, Void> {
         "java.util.List", "add|get|set|remove|size|isEmpty|clear|of",
         "java.lang.Math", "\\w+(?<!Exact)", "java.lang.Integer", "\\w+(?<!Exact)", "java.lang.Long", "\\w+(?<!Exact)",
         "java.lang.System", "arraycopy", "java.util.Arrays", "copyOf|copyOfRange|fill", "java.lang.Object", "clone");
+
+    /** What may not stand at all; loops without a counter of their own are not needed, and have no end to be seen. */
+    private static final Map<Tree.Kind, Integer> NOT_LEFT = Map.of(
+        Tree.Kind.LAMBDA_EXPRESSION, 2, Tree.Kind.MEMBER_REFERENCE, 2, Tree.Kind.THROW, 6, Tree.Kind.TRY, 6,
+        Tree.Kind.SYNCHRONIZED, 6, Tree.Kind.ASSERT, 6, Tree.Kind.WHILE_LOOP, 9, Tree.Kind.DO_WHILE_LOOP, 9);
 
     /** What was found, each with the rule's number ahead. */
     final List<String> found = new ArrayList<>();
@@ -112,6 +108,19 @@ final class SourceRules extends TreePathScanner<Void, Void> {
 
     private TypeMirror typeOf(Tree tree) {
         return trees.getTypeMirror(new TreePath(getCurrentPath(), tree));
+    }
+
+    @Override
+    public Void scan(Tree tree, Void none) {
+        if (tree != null && NOT_LEFT.containsKey(tree.getKind())) {
+            add(NOT_LEFT.get(tree.getKind()), tree);
+        }
+        if (tree instanceof NewClassTree || tree instanceof NewArrayTree) {
+            // the class makes all its rows once, so that no call makes one
+            Element maker = callerOfPath();
+            want(12, maker == null || maker.getKind() == ElementKind.CONSTRUCTOR, tree);
+        }
+        return super.scan(tree, none);
     }
 
     // ---- classes, members, types
@@ -194,30 +203,17 @@ final class SourceRules extends TreePathScanner<Void, Void> {
         return super.visitMethodInvocation(tree, none);
     }
 
-    private Element callerOfPath() {
-        for (TreePath path = getCurrentPath(); path != null; path = path.getParentPath()) {
-            if (path.getLeaf() instanceof MethodTree) {
-                return trees.getElement(path);
-            }
+    private TreePath methodOfPath() {
+        TreePath path = getCurrentPath();
+        while (path != null && !(path.getLeaf() instanceof MethodTree)) {
+            path = path.getParentPath();
         }
-        return null;
+        return path;
     }
 
-    private void wantMadeOnce(Tree tree) {
-        Element caller = callerOfPath();
-        want(12, caller == null || caller.getKind() == ElementKind.CONSTRUCTOR, tree);
-    }
-
-    @Override
-    public Void visitNewClass(NewClassTree tree, Void none) {
-        wantMadeOnce(tree);
-        return super.visitNewClass(tree, none);
-    }
-
-    @Override
-    public Void visitNewArray(NewArrayTree tree, Void none) {
-        wantMadeOnce(tree);
-        return super.visitNewArray(tree, none);
+    private Element callerOfPath() {
+        TreePath method = methodOfPath();
+        return method == null ? null : trees.getElement(method);
     }
 
     private void lookAtDepth() {
@@ -235,50 +231,6 @@ final class SourceRules extends TreePathScanner<Void, Void> {
             deepest = Math.max(deepest, depthOf(called, left - 1));
         }
         return deepest + 1;
-    }
-
-    // ---- what may not stand
-
-    @Override
-    public Void visitLambdaExpression(LambdaExpressionTree tree, Void none) {
-        add(2, tree);
-        return super.visitLambdaExpression(tree, none);
-    }
-
-    @Override
-    public Void visitMemberReference(MemberReferenceTree tree, Void none) {
-        add(2, tree);
-        return super.visitMemberReference(tree, none);
-    }
-
-    @Override
-    public Void visitThrow(ThrowTree tree, Void none) {
-        add(6, tree);
-        return super.visitThrow(tree, none);
-    }
-
-    @Override
-    public Void visitTry(TryTree tree, Void none) {
-        add(6, tree);
-        return super.visitTry(tree, none);
-    }
-
-    @Override
-    public Void visitCatch(CatchTree tree, Void none) {
-        add(6, tree);
-        return super.visitCatch(tree, none);
-    }
-
-    @Override
-    public Void visitSynchronized(SynchronizedTree tree, Void none) {
-        add(6, tree);
-        return super.visitSynchronized(tree, none);
-    }
-
-    @Override
-    public Void visitAssert(AssertTree tree, Void none) {
-        add(6, tree);
-        return super.visitAssert(tree, none);
     }
 
     // ---- numbers and loops
@@ -317,10 +269,7 @@ final class SourceRules extends TreePathScanner<Void, Void> {
     private void wantDivisorLookedAt(Tree tree, ExpressionTree divisor) {
         Element element = trees.getElement(new TreePath(getCurrentPath(), divisor));
         boolean constant = divisor instanceof LiteralTree || element != null && element.getModifiers().contains(Modifier.STATIC);
-        TreePath method = getCurrentPath();
-        while (method != null && !(method.getLeaf() instanceof MethodTree)) {
-            method = method.getParentPath();
-        }
+        TreePath method = methodOfPath();
         String code = method == null ? "" : method.getLeaf().toString();
         want(7, constant || code.contains(divisor + " != 0") || code.contains(divisor + " = commonDivisor("), tree);
     }
@@ -334,19 +283,6 @@ final class SourceRules extends TreePathScanner<Void, Void> {
             want(9, tree.getCondition().toString().matches(".*\\b" + counter + " (<|<=|>|>=) .*"), tree);
         }
         return super.visitForLoop(tree, none);
-    }
-
-    /** Loops without a counter of their own are not needed here, so that each end can be seen from a loop's head. */
-    @Override
-    public Void visitWhileLoop(WhileLoopTree tree, Void none) {
-        add(9, tree);
-        return super.visitWhileLoop(tree, none);
-    }
-
-    @Override
-    public Void visitDoWhileLoop(DoWhileLoopTree tree, Void none) {
-        add(9, tree);
-        return super.visitDoWhileLoop(tree, none);
     }
 
     /** A source that is in no file. */
